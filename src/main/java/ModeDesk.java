@@ -287,7 +287,7 @@ public final class ModeDesk {
         change(LATERAL, OFF, byItself);
         change(VERTICAL, OFF, byItself);
         disarmAll();
-        engaged = false;
+        disengageWithWarning();
         stopFlashing();
     }
 
@@ -465,7 +465,6 @@ public final class ModeDesk {
         if (soundness[other]) {
             leader = other;
         } else {
-            disengageWithWarning();
             turnOff(true);
         }
         return true;

@@ -53,6 +53,7 @@ final class ButtonsTest {
         desk.press(Checks.APPROACH);
         pressed("HEADING, APPROACH armed", desk, Checks.HEADING, 1, "ROLL/PITCH A G C");
         pressed("ROLL, APPROACH armed", desk, Checks.HEADING, 1, "HEADING/PITCH A G C");
+        Checks.due("HEADING's changes", Checks.changesFrom(desk, 2), "L1-2 L2-1 L1-2");
         pressed("NAV", Checks.inNav(), Checks.HEADING, 1, "HEADING/PITCH C");
         pressed("APPROACH, GLIDE armed", Checks.inApproach(), Checks.HEADING, 1, "HEADING/PITCH C");
         ModeDesk glide = Checks.inGlide();
@@ -77,6 +78,7 @@ final class ButtonsTest {
         ModeDesk nav = Checks.inNav();
         pressed("NAV", nav, Checks.NAV, 1, "ROLL/PITCH C");
         pressed("at once by itself", nav, Checks.NAV, 1, "NAV/PITCH C");
+        Checks.due("NAV's changes", Checks.changesFrom(nav, 2), "L1-3* L3-1 L1-3*");
         nav.sense(Checks.COURSE, 101);
         nav.press(Checks.APPROACH);
         pressed("NAV, APPROACH armed", nav, Checks.NAV, 1, "ROLL/PITCH A G C");
