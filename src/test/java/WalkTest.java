@@ -6,7 +6,7 @@ import java.util.Random;
  */
 final class WalkTest {
     private static final int RUNS = 150;
-    private static final int LONGEST = 60;
+    private static final int LONGEST = 50;
     private static final int[] DEVIATIONS = {0, 80, -80, 81, 100, -100, 101, 150, -150, 151, 1000, -1000};
     private static final int[] HEIGHTS = {0, 20, 21, 379, 380, 400, 401, 420, 421, 800, 50000};
     private static final int[] SPEEDS = {0, 400, 401, 600};
@@ -109,16 +109,15 @@ final class WalkTest {
     private static void changesFitTogether(String what, ModeDesk desk) {
         int[] last = new int[2];
         int count = Checks.changeCount(desk);
-        Checks.due(what + ": at most 300", count <= 300, true);
         for (int i = 0; i < count; i++) {
             int place = desk.kept(i, 0);
-            Checks.due(what + ": before change " + i, desk.kept(i, 1), last[place]);
-            Checks.due(what + ": change " + i + " is one", desk.kept(i, 1) == desk.kept(i, 2), false);
-            last[place] = desk.kept(i, 2);
+            int before = desk.kept(i, 1);
+            int behind = desk.kept(i, 2);
+            Checks.due(what + ": before change " + i, before, last[place]);
+            Checks.due(what + ": change " + i + " is one", before == behind, false);
+            last[place] = behind;
         }
-        if (count < 300) {
-            Checks.due(what + ": the last lateral one", last[0], desk.mode(0));
-            Checks.due(what + ": the last vertical one", last[1], desk.mode(1));
-        }
+        Checks.due(what + ": the last lateral one", last[0], desk.mode(0));
+        Checks.due(what + ": the last vertical one", last[1], desk.mode(1));
     }
 }
