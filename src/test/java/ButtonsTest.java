@@ -11,7 +11,7 @@ final class ButtonsTest {
         sync();
         transfer();
         director();
-        aButtonEndsTheFlashing();
+        whatComesBehindAButtonFlashes();
         Checks.finish("ButtonsTest");
     }
 
@@ -126,6 +126,9 @@ final class ButtonsTest {
         pressed("CAPTURE", near, Checks.HOLD, 1, "ROLL/HOLD");
         pressed("PITCH near the height", near, Checks.HOLD, 1, "ROLL/CAPTURE");
         ModeDesk fast = Checks.inBase();
+        fast.sense(Checks.SPEED, 400);
+        pressed("not too fast for CLIMB", fast, Checks.CLIMB, 1, "ROLL/CLIMB C");
+        fast.press(Checks.CLIMB);
         fast.sense(Checks.SPEED, 401);
         pressed("too fast for CLIMB", fast, Checks.CLIMB, 1, "ROLL/LEVEL C");
     }
@@ -204,19 +207,12 @@ final class ButtonsTest {
         Checks.due("channel 1 leads", second.shown(), Checks.ON | Checks.SECOND_LEADS);
     }
 
-    private static void aButtonEndsTheFlashing() {
-        for (int button = 0; button <= 9; button++) {
-            ModeDesk desk = Checks.inGlide();
-            desk.engage();
-            Checks.due("before " + button, desk.shown() & 24, 24);
-            desk.press(button);
-            Checks.due("flashing behind " + button, desk.shown() & 24, 0);
-        }
-        ModeDesk again = new ModeDesk();
-        again.press(Checks.DIRECTOR);
-        again.step(5);
-        again.press(Checks.HOLD);
-        Checks.due("by itself behind a button flashes ten steps", again.step(9), 1);
-        Checks.due("and no more", again.step(1), 0);
+    private static void whatComesBehindAButtonFlashes() {
+        ModeDesk desk = new ModeDesk();
+        desk.press(Checks.DIRECTOR);
+        desk.step(5);
+        desk.press(Checks.HOLD);
+        Checks.due("by itself behind a button flashes ten steps", desk.step(9), 1);
+        Checks.due("and no more", desk.step(1), 0);
     }
 }

@@ -184,6 +184,11 @@ final class ByItselfTest {
         Checks.due("i: flashes", desk.shown(), Checks.ON | Checks.VERTICAL_FLASH);
         sensed("i: near again", desk, Checks.HEIGHT, 49600, 1, "ROLL/CAPTURE");
         sensed("i: another height is selected", desk, Checks.SELECTED, 0, 1, "ROLL/PITCH C");
+        ModeDesk above = Checks.inBase();
+        above.sense(Checks.HEIGHT, 20000);
+        above.sense(Checks.SELECTED, 19700);
+        sensed("i: near from above", above, Checks.HEIGHT, 20100, 0, "ROLL/CAPTURE");
+        sensed("i: lost from above", above, Checks.HEIGHT, 20101, 1, "ROLL/PITCH C");
     }
 
     private static void jClimbIsTooFast() {

@@ -57,6 +57,16 @@ final class Checks {
         return all.toString();
     }
 
+    /** All that the face tells of a desk, but for how many steps its places flash still. */
+    static String everything(ModeDesk desk) {
+        StringBuilder measures = new StringBuilder();
+        for (int what = 0; what <= PATH_IN; what++) {
+            measures.append(' ').append(desk.measure(what));
+        }
+        return modes(desk) + ", shown " + desk.shown() + ", measures" + measures
+            + ", kept " + changesFrom(desk, 0);
+    }
+
     static int changeCount(ModeDesk desk) {
         int count = 0;
         while (desk.kept(count, 0) != ModeDesk.NONE) {
